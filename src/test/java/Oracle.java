@@ -291,13 +291,16 @@ final class Oracle {
         return all;
     }
 
-    /** The rank of the first columns; rows are multiplied crosswise and never divided. */
     private static int rankOf(List<BigInteger[]> rows, int columns) {
         List<BigInteger[]> left = new ArrayList<>();
         for (BigInteger[] row : rows) {
             left.add(row.clone());
         }
-        int rank = 0;
+        return rows.size() - eliminate(left, columns).size();
+    }
+
+    /** Clears the first columns, multiplying rows crosswise; what remains are the rows without a pivot. */
+    private static List<BigInteger[]> eliminate(List<BigInteger[]> left, int columns) {
         for (int c = 0; c < columns; c++) {
             BigInteger[] pivot = null;
             for (BigInteger[] row : left) {
@@ -309,7 +312,6 @@ final class Oracle {
                 continue;
             }
             left.remove(pivot);
-            rank++;
             for (BigInteger[] row : left) {
                 BigInteger factor = row[c];
                 for (int j = 0; j < row.length; j++) {
@@ -317,7 +319,7 @@ final class Oracle {
                 }
             }
         }
-        return rank;
+        return left;
     }
 
     private static boolean isDetermined(List<BigInteger[]> rows, int width, int u) {
@@ -387,26 +389,7 @@ final class Oracle {
             row[u] = row[width - 1];
             row[width - 1] = swap;
         }
-        List<BigInteger[]> left = new ArrayList<>(rows);
-        for (int c = 0; c < width - 1; c++) {
-            BigInteger[] pivot = null;
-            for (BigInteger[] row : left) {
-                if (pivot == null && row[c].signum() != 0) {
-                    pivot = row;
-                }
-            }
-            if (pivot == null) {
-                continue;
-            }
-            left.remove(pivot);
-            for (BigInteger[] row : left) {
-                BigInteger factor = row[c];
-                for (int j = 0; j <= width; j++) {
-                    row[j] = row[j].multiply(pivot[c]).subtract(pivot[j].multiply(factor));
-                }
-            }
-        }
-        for (BigInteger[] row : left) {
+        for (BigInteger[] row : eliminate(rows, width - 1)) {
             if (row[width - 1].signum() != 0) {
                 BigInteger gcd = row[width - 1].gcd(row[width]);
                 BigInteger sign = big(row[width - 1].signum());
