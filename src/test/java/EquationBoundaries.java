@@ -20,6 +20,7 @@ final class EquationBoundaries {
         equationsWithoutOne();
         combinationsOfLeftSides();
         singularLeftSides();
+        linesThatMeet();
         valuesDoNotMatter();
         oneValueInAllSolutions();
         promise16();
@@ -363,6 +364,32 @@ final class EquationBoundaries {
         x.measurePair(3, 1);
         x.rank().is(12);
         x.identifiableCount().is(12);
+    }
+
+    /** Two lines that meet: in the order of the pairs the rows are subtracted from one another. */
+    private static void linesThatMeet() {
+        Sentences.names(0, "A pair with a route is identifiable if the left sides of the equations determine it");
+        Subject x = Subject.ofNodes(4);
+        x.addLink(1, 3, 1);
+        x.addLink(0, 3, 1);
+        x.addLink(3, 2, 1);
+        setLoads(x, 10, 20, 30);
+        x.rank().is(3);
+        x.isConsistent().is(1);
+        x.identifiableCount().is(0);
+        notIdentified(x, 0, 2);
+        notIdentified(x, 0, 3);
+        x.setDemand(3, 2, 4);
+        x.measurePair(3, 2);
+        x.rank().is(4);
+        x.identifiableCount().is(1);
+        notIdentified(x, 0, 2);
+        x.setDemand(1, 3, 3);
+        x.measurePair(1, 3);
+        x.rank().is(5);
+        identified(x, 1, 2, 7, 1);
+        identified(x, 0, 2, 30 - 4 - 7, 1);
+        identified(x, 0, 3, 1, 1);
     }
 
     private static void valuesDoNotMatter() {
