@@ -19,7 +19,7 @@ final class Document {
             sentences.add(new ArrayList<>());
             named.add(new BitSet());
         }
-        if (file != null && Files.exists(file)) {
+        if (Files.exists(file)) {
             read(Files.readAllLines(file));
         }
     }

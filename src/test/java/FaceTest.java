@@ -6,6 +6,7 @@ import java.lang.reflect.Modifier;
 import java.nio.file.Files;
 import java.nio.file.Path;
 import java.util.ArrayList;
+import java.util.Arrays;
 import java.util.List;
 import java.util.TreeSet;
 import java.util.regex.Matcher;
@@ -35,7 +36,8 @@ public final class FaceTest {
         constants();
         members();
         nestedClasses();
-        words(Files.readString(Path.of(System.getProperty("project.source"))));
+        String source = System.getProperty("project.source", "src/main/java/TrafficMatrix.java");
+        words(Files.readString(Path.of(source)));
         DUE.end();
     }
 
@@ -65,8 +67,7 @@ public final class FaceTest {
         }
         same("methods", seen, List.of(METHODS));
         for (String name : hidden) {
-            boolean taken = seen.stream().anyMatch(s -> s.contains(" " + name + "("));
-            DUE.is("private method " + name + " with a public name", taken ? 1 : 0, 0);
+            DUE.is("private method " + name + " with a public name", isNameOfFace(name) ? 1 : 0, 0);
         }
         List<String> fields = new ArrayList<>();
         for (Field field : TrafficMatrix.class.getDeclaredFields()) {
@@ -78,6 +79,10 @@ public final class FaceTest {
         Constructor<?>[] constructors = TrafficMatrix.class.getDeclaredConstructors();
         DUE.is("constructors", constructors.length, 1);
         DUE.is("parameters of the constructor", constructors[0].getParameterCount(), 0);
+    }
+
+    private static boolean isNameOfFace(String name) {
+        return Arrays.stream(METHODS).anyMatch(signature -> signature.contains(" " + name + "("));
     }
 
     private static String signature(Method method) {
@@ -99,6 +104,10 @@ public final class FaceTest {
             int mode = nested.getModifiers();
             DUE.is(nested + " is static", Modifier.isStatic(mode) ? 1 : 0, 1);
             DUE.is(nested + " is not public", mode & (Modifier.PUBLIC | Modifier.PROTECTED), 0);
+            for (Method method : nested.getDeclaredMethods()) {
+                DUE.is(nested + "." + method.getName() + " with a name of the face",
+                        isNameOfFace(method.getName()) ? 1 : 0, 0);
+            }
             for (Field field : nested.getDeclaredFields()) {
                 int kind = field.getModifiers();
                 DUE.is(nested + "." + field.getName() + " is no static variable",

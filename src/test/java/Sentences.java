@@ -19,8 +19,7 @@ final class Sentences {
     }
 
     static void begin() throws IOException {
-        String path = System.getProperty("project.document");
-        document = new Document(path == null ? null : Path.of(path));
+        document = new Document(Path.of(System.getProperty("project.document", "../shared/DOC.md")));
     }
 
     /** Begins the test of a sentence; promise 0 is the description. */
