@@ -706,8 +706,8 @@ public final class TrafficMatrix {
     }
 
     /**
-     * The estimates in thousandths. None is above 1000 times the greatest measured load, so that all
-     * products fit into a long. A pair never loses its route but by a reset, which makes all estimates
+     * The estimates in thousandths. None is above 1000 * MAX_LOAD, which no total exceeds either, so that
+     * all products fit into a long. A pair never loses its route but by a reset, which makes all estimates
      * 0: so the pairs without a route have the estimate 0 all the time, and fitting leaves them there.
      */
     private static final class Estimates {

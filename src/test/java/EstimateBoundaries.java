@@ -23,6 +23,7 @@ final class EstimateBoundaries {
         columnsOfNothing();
         columnsOfOneThousandth();
         columnsComeAfterRows();
+        totalsOfEveryNode();
         linksOfNothing();
         linksOfOneThousandth();
         linksComeInOrder();
@@ -337,19 +338,38 @@ final class EstimateBoundaries {
         estimates(x, 10000, 5627, 5372);
         x.fitTotals(1).is(2);
         estimates(x, 10000, 4605, 6394);
-        // the same with node 0 as the last target
-        Subject y = Subject.ofNodes(3);
-        y.addLink(1, 2, 1);
-        y.addLink(2, 0, 1);
-        y.setDemand(1, 2, 10);
-        y.setDemand(1, 0, 4);
-        y.setDemand(2, 0, 7);
-        y.measure();
-        y.applyGravity();
-        y.fitTotals(1).is(3);
-        y.estimate(1, 2).is(10000);
-        y.estimate(1, 0).is(5627);
-        y.estimate(2, 0).is(5372);
+    }
+
+    private static void totalsOfEveryNode() {
+        Sentences.names(0, "Fitting to totals, once: for each node s by ascending number");
+        for (int a = 0; a < 5; a++) {
+            for (int b = 0; b < 5; b++) {
+                for (int c = 0; c < 5; c++) {
+                    if (a != b && a != c && b != c) {
+                        exampleOver(a, b, c);
+                    }
+                }
+            }
+        }
+    }
+
+    /** The example with other nodes than 0, 1 and 2, in the smallest network that has them. */
+    private static void exampleOver(int a, int b, int c) {
+        Subject x = Subject.ofNodes(1 + Math.max(a, Math.max(b, c)));
+        x.addLink(a, b, 1);
+        x.addLink(b, c, 1);
+        x.setDemand(a, b, 10);
+        x.setDemand(a, c, 4);
+        x.setDemand(b, c, 7);
+        x.measure().is(21);
+        x.applyGravity().is(3);
+        x.fitTotals(1).is(3);
+        x.estimate(a, b).is(10000);
+        x.estimate(a, c).is(5627);
+        x.estimate(b, c).is(5372);
+        x.fitTotals(1).is(2);
+        x.estimate(a, c).is(4605);
+        x.estimate(b, c).is(6394);
     }
 
     private static void linksOfNothing() {
